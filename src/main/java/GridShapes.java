@@ -36,9 +36,9 @@ public final class GridShapes {
         frame = new Frame(kind, width, height);
         net = new Net(frame);
         turns = new Turns(frame);
-        walk = new Walk(net, frame.count);
-        scribe = new Scribe(frame.count);
-        draft = new Draft(frame.count);
+        walk = new Walk(frame, net);
+        scribe = new Scribe(frame);
+        draft = new Draft(frame);
         came = new Row(MOST_BYTES);
         marks = new int[frame.count];
         areas = new int[frame.count];
@@ -552,10 +552,10 @@ public final class GridShapes {
         private final int[] steps;
         private final Row reached;
 
-        Walk(Net net, int count) {
+        Walk(Frame frame, Net net) {
             this.net = net;
-            steps = new int[count];
-            reached = new Row(count);
+            steps = new int[frame.count];
+            reached = new Row(frame.count);
         }
 
         void admitAll() {
@@ -594,8 +594,9 @@ public final class GridShapes {
         void spreadFrom(int start) {
             reached.clear();
             reach(start, 0);
-            for (int turn = 0; turn < steps.length && turn < reached.length(); turn++) {
-                int place = reached.at(turn);
+            // No place is reached twice, so the row never grows longer than there are places.
+            for (int head = 0; head < steps.length && head < reached.length(); head++) {
+                int place = reached.at(head);
                 for (int slot = 0; slot < net.slots; slot++) {
                     reach(net.openAt(place, slot), stepsTo(place) + 1);
                 }
@@ -645,9 +646,9 @@ public final class GridShapes {
     private static final class Scribe {
         final Row line;
 
-        Scribe(int count) {
+        Scribe(Frame frame) {
             // The longest text has two digits for each place and blanks between.
-            line = new Row(3 * count);
+            line = new Row(3 * frame.count);
         }
 
         void spell(int[] marks) {
@@ -692,8 +693,8 @@ public final class GridShapes {
         private int filled;
         private int digits;
 
-        Draft(int count) {
-            marks = new int[count < 0 ? 0 : count];
+        Draft(Frame frame) {
+            marks = new int[frame.count];
         }
 
         int firstFault(Row line) {

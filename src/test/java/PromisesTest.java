@@ -360,6 +360,10 @@ public final class PromisesTest {
         checks.due("11: areas do not part all", s.parts(-1), 2);
         s.wall(4, 5, true);
         checks.due("11: a wall in an area", s.parts(2), 3);
+        GridShapes line = squares(3, 1);
+        line.area(1, 1);
+        checks.due("11: area 0 is an area", line.parts(0), 2);
+        checks.due("11: all of the line", line.parts(-1), 1);
         checks.due("11: graph", graph(6, 0, 1, 4, 2).parts(-1), 4);
         checks.due("11: graph's area", graph(6, 0, 1, 4, 2).parts(0), 4);
         checks.due("11: hexes", hexes(16, 16).parts(-1), 1);
