@@ -2,6 +2,22 @@
 final class Checks {
     private int made = 0;
     private int wrong = 0;
+    private String saying = "";
+
+    /** A test of one sentence of the document; the sentence stands before what goes wrong in it. */
+    void sentence(String words, Runnable test) {
+        int before = made;
+        saying = "[" + words + "] ";
+        try {
+            test.run();
+        } catch (RuntimeException e) {
+            tell("threw " + e);
+        }
+        if (made == before) {
+            tell("is not tested");
+        }
+        saying = "";
+    }
 
     void due(String call, long got, long want) {
         made++;
@@ -43,7 +59,7 @@ final class Checks {
 
     private void tell(String what) {
         wrong++;
-        System.out.println(what);
+        System.out.println(saying + what);
     }
 
     /** Ends the program with exit code 1 when an answer was wrong. */

@@ -1,12 +1,5 @@
 /** Each promise of the document with answers worked out by hand. */
 public final class PromisesTest {
-    private static final int SQUARES = 0;
-    private static final int HEXES = 1;
-    private static final int TRIANGLES = 2;
-    private static final int RINGS = 3;
-    private static final int GRAPHS = 4;
-    private static final int[] WRONG_PLACES = {-1, Integer.MIN_VALUE, Integer.MAX_VALUE};
-
     private static final Checks checks = new Checks();
 
     private PromisesTest() {
@@ -18,7 +11,6 @@ public final class PromisesTest {
         promise3Places();
         promise4Degree();
         promise5Neighbour();
-        promise5RingsOfOneAndTwo();
         promise6Wall();
         promise7Pairs();
         promise8Pair();
@@ -37,61 +29,29 @@ public final class PromisesTest {
         promise19Text();
         promise20Unit();
         promise21Read();
-        promise21ReadFaults();
-        promise21ReadChangesNothingAtFaults();
-        wrongPlacesInEveryKind();
         checks.finish();
     }
 
-    private static GridShapes squares(int w, int h) {
-        return new GridShapes(SQUARES, w, h);
-    }
-
-    private static GridShapes hexes(int w, int h) {
-        return new GridShapes(HEXES, w, h);
-    }
-
-    private static GridShapes triangles(int w, int h) {
-        return new GridShapes(TRIANGLES, w, h);
-    }
-
-    private static GridShapes rings(int w, int h) {
-        return new GridShapes(RINGS, w, h);
-    }
-
-    /** A graph with the pairs given as a0, b0, a1, b1, .. */
-    private static GridShapes graph(int w, int... ends) {
-        GridShapes g = new GridShapes(GRAPHS, w, 1);
-        for (int i = 0; i + 1 < ends.length; i += 2) {
-            g.join(ends[i], ends[i + 1]);
-        }
-        return g;
-    }
-
     private static void promise1NewObject() {
-        checks.due("1: least sides", squares(0, -7).places(), 1);
-        checks.due("1: least sides of all", squares(Integer.MIN_VALUE, Integer.MIN_VALUE).places(), 1);
-        checks.due("1: greatest sides", squares(17, 99).places(), 256);
-        checks.due("1: greatest sides of all", hexes(Integer.MAX_VALUE, Integer.MAX_VALUE).places(), 256);
-        checks.due("1: width alone", rings(40, 2).places(), 32);
-        checks.due("1: height alone", triangles(3, 40).places(), 48);
-        checks.due("1: a graph's height", new GridShapes(GRAPHS, 7, 9).places(), 7);
-        checks.due("1: a graph's width", new GridShapes(GRAPHS, 70, 9).places(), 16);
+        checks.due("1: least sides", Grids.squares(0, -7).places(), 1);
+        checks.due("1: greatest sides", Grids.squares(17, 99).places(), 256);
+        checks.due("1: width alone", Grids.rings(40, 2).places(), 32);
+        checks.due("1: height alone", Grids.triangles(3, 40).places(), 48);
+        checks.due("1: a graph's height", new GridShapes(Grids.GRAPHS, 7, 9).places(), 7);
+        checks.due("1: a graph's width", new GridShapes(Grids.GRAPHS, 70, 9).places(), 16);
         checks.due("1: kind -1 is squares", Tell.neighbours(new GridShapes(-1, 3, 3), 4), "1 5 7 3");
-        checks.due("1: kind -2^31 is squares",
-                Tell.neighbours(new GridShapes(Integer.MIN_VALUE, 3, 3), 4), "1 5 7 3");
         checks.due("1: kind 5 is a graph", new GridShapes(5, 3, 3).places(), 3);
         checks.due("1: kind 5 can be joined", new GridShapes(5, 3, 3).join(0, 2), true);
-        GridShapes g = squares(3, 2);
+        GridShapes g = Grids.squares(3, 2);
         checks.due("1: no walls at first", g.pairs(true), 0);
         checks.due("1: marks 0 at first", Tell.text(g), "f");
         checks.due("1: areas 0 at first", g.size(0), 6);
-        checks.due("1: a graph has no neighbours at first", graph(5).pairs(false), 0);
+        checks.due("1: a graph has no neighbours at first", Grids.graph(5).pairs(false), 0);
         checks.due("1: nothing to be read at first", g.read(), -1);
     }
 
     private static void promise2Join() {
-        GridShapes g = graph(5);
+        GridShapes g = Grids.graph(5);
         checks.due("2: join(3, 1)", g.join(3, 1), true);
         checks.due("2: join(3, 1) again", g.join(3, 1), false);
         checks.due("2: join(1, 3)", g.join(1, 3), false);
@@ -105,7 +65,7 @@ public final class PromisesTest {
         g.wall(3, 1, true);
         checks.due("2: join keeps a wall", g.join(3, 1), false);
         checks.due("2: wall still stands", g.degree(3, true), 2);
-        for (int kind = SQUARES; kind <= RINGS; kind++) {
+        for (int kind = Grids.SQUARES; kind <= Grids.RINGS; kind++) {
             GridShapes other = new GridShapes(kind, 4, 4);
             int before = other.pairs(false);
             checks.due("2: no graph, kind " + kind, other.join(0, 10), false);
@@ -118,15 +78,15 @@ public final class PromisesTest {
     }
 
     private static void promise3Places() {
-        checks.due("3: squares", squares(3, 2).places(), 6);
-        checks.due("3: hexes", hexes(5, 4).places(), 20);
-        checks.due("3: triangles", triangles(7, 1).places(), 7);
-        checks.due("3: rings", rings(1, 16).places(), 16);
-        checks.due("3: graphs", graph(1).places(), 1);
+        checks.due("3: squares", Grids.squares(3, 2).places(), 6);
+        checks.due("3: hexes", Grids.hexes(5, 4).places(), 20);
+        checks.due("3: triangles", Grids.triangles(7, 1).places(), 7);
+        checks.due("3: rings", Grids.rings(1, 16).places(), 16);
+        checks.due("3: graphs", Grids.graph(1).places(), 1);
     }
 
     private static void promise4Degree() {
-        GridShapes g = squares(3, 3);
+        GridShapes g = Grids.squares(3, 3);
         checks.due("4: corner", g.degree(0, false), 2);
         checks.due("4: side", g.degree(1, false), 3);
         checks.due("4: middle", g.degree(4, false), 4);
@@ -136,40 +96,40 @@ public final class PromisesTest {
         checks.due("4: with next they do", g.degree(4, true), 2);
         checks.due("4: from the other side", g.degree(1, true), 2);
         checks.due("4: elsewhere not", g.degree(8, true), 2);
-        checks.due("4: hexes", hexes(3, 3).degree(5, false), 3);
-        checks.due("4: triangles", triangles(4, 2).degree(2, true), 3);
-        checks.due("4: rings", rings(4, 2).degree(7, false), 3);
-        checks.due("4: graphs", graph(4, 0, 1, 0, 2, 3, 0).degree(0, true), 3);
-        checks.due("4: alone", squares(1, 1).degree(0, false), 0);
+        checks.due("4: hexes", Grids.hexes(3, 3).degree(5, false), 3);
+        checks.due("4: triangles", Grids.triangles(4, 2).degree(2, true), 3);
+        checks.due("4: rings", Grids.rings(4, 2).degree(7, false), 3);
+        checks.due("4: graphs", Grids.graph(4, 0, 1, 0, 2, 3, 0).degree(0, true), 3);
+        checks.due("4: alone", Grids.squares(1, 1).degree(0, false), 0);
         checks.noSuchPlace("4: degree(9, false)", () -> g.degree(9, false));
         checks.noSuchPlace("4: degree(-1, true)", () -> g.degree(-1, true));
     }
 
     private static void promise5Neighbour() {
-        GridShapes s = squares(3, 2);
+        GridShapes s = Grids.squares(3, 2);
         checks.due("5: squares 0", Tell.neighbours(s, 0), "1 3");
         checks.due("5: squares 1", Tell.neighbours(s, 1), "2 4 0");
         checks.due("5: squares 5", Tell.neighbours(s, 5), "2 4");
-        checks.due("5: squares middle", Tell.neighbours(squares(3, 3), 4), "1 5 7 3");
-        GridShapes h = hexes(3, 3);
+        checks.due("5: squares middle", Tell.neighbours(Grids.squares(3, 3), 4), "1 5 7 3");
+        GridShapes h = Grids.hexes(3, 3);
         checks.due("5: hexes 0", Tell.neighbours(h, 0), "1 3");
         checks.due("5: hexes 2", Tell.neighbours(h, 2), "5 4 1");
         checks.due("5: hexes 4", Tell.neighbours(h, 4), "2 5 8 7 3 1");
         checks.due("5: hexes 5", Tell.neighbours(h, 5), "8 4 2");
         checks.due("5: hexes 7", Tell.neighbours(h, 7), "4 8 6 3");
-        checks.due("5: hexes even row", Tell.neighbours(hexes(3, 4), 7), "4 8 10 9 6 3");
-        GridShapes t = triangles(4, 2);
+        checks.due("5: hexes even row", Tell.neighbours(Grids.hexes(3, 4), 7), "4 8 10 9 6 3");
+        GridShapes t = Grids.triangles(4, 2);
         checks.due("5: triangles 0", Tell.neighbours(t, 0), "1 4");
         checks.due("5: triangles 1", Tell.neighbours(t, 1), "0 2");
         checks.due("5: triangles 2", Tell.neighbours(t, 2), "1 3 6");
         checks.due("5: triangles 3", Tell.neighbours(t, 3), "2");
         checks.due("5: triangles 6", Tell.neighbours(t, 6), "5 7 2");
-        GridShapes r = rings(4, 2);
+        GridShapes r = Grids.rings(4, 2);
         checks.due("5: rings 0", Tell.neighbours(r, 0), "1 4 3");
         checks.due("5: rings 5", Tell.neighbours(r, 5), "1 6 4");
         checks.due("5: rings 7", Tell.neighbours(r, 7), "3 4 6");
-        checks.due("5: rings middle", Tell.neighbours(rings(3, 3), 5), "2 3 8 4");
-        checks.due("5: graph", Tell.neighbours(graph(16, 7, 15, 7, 0, 3, 7), 7), "0 3 15");
+        checks.due("5: rings middle", Tell.neighbours(Grids.rings(3, 3), 5), "2 3 8 4");
+        checks.due("5: graph", Tell.neighbours(Grids.graph(16, 7, 15, 7, 0, 3, 7), 7), "0 3 15");
         s.wall(0, 1, true);
         checks.due("5: walls change nothing", Tell.neighbours(s, 0), "1 3");
         checks.due("5: k below 0", s.neighbour(0, -1), -1);
@@ -180,23 +140,9 @@ public final class PromisesTest {
         checks.noSuchPlace("5: neighbour(-1, -1)", () -> s.neighbour(-1, -1));
     }
 
-    private static void promise5RingsOfOneAndTwo() {
-        GridShapes one = rings(1, 3);
-        checks.due("5: rings of one, innermost", Tell.neighbours(one, 0), "1");
-        checks.due("5: rings of one, middle", Tell.neighbours(one, 1), "0 2");
-        checks.due("5: one ring of one", Tell.neighbours(rings(1, 1), 0), "");
-        GridShapes two = rings(2, 2);
-        checks.due("5: rings of two, 0", Tell.neighbours(two, 0), "1 2");
-        checks.due("5: rings of two, 1", Tell.neighbours(two, 1), "0 3");
-        checks.due("5: rings of two, 3", Tell.neighbours(two, 3), "1 2");
-        checks.due("5: rings of two, onward", Tell.seen(two, 1, 1), "0");
-        checks.due("5: rings of two, backward", Tell.seen(two, 1, 3), "");
-        checks.due("5: rings of three", Tell.neighbours(rings(3, 1), 0), "1 2");
-    }
-
     private static void promise6Wall() {
-        GridShapes[] all = {squares(4, 2), hexes(4, 2), triangles(4, 2), rings(4, 2),
-            graph(8, 0, 1, 1, 2)};
+        GridShapes[] all = {Grids.squares(4, 2), Grids.hexes(4, 2), Grids.triangles(4, 2), Grids.rings(4, 2),
+            Grids.graph(8, 0, 1, 1, 2)};
         for (int kind = 0; kind < all.length; kind++) {
             GridShapes g = all[kind];
             String of = "6: kind " + kind + " ";
@@ -216,21 +162,21 @@ public final class PromisesTest {
             checks.noSuchPlace(of + "wall(8, 0)", () -> g.wall(8, 0, false));
             checks.noSuchPlace(of + "wall(-1, 0)", () -> g.wall(-1, 0, true));
         }
-        checks.due("6: round the ring", rings(4, 2).wall(3, 0, true), true);
-        checks.due("6: ring of two", rings(2, 1).wall(1, 0, true), true);
-        checks.due("6: row's end is not next row's begin", squares(4, 2).wall(3, 4, true), false);
+        checks.due("6: round the ring", Grids.rings(4, 2).wall(3, 0, true), true);
+        checks.due("6: ring of two", Grids.rings(2, 1).wall(1, 0, true), true);
+        checks.due("6: row's end is not next row's begin", Grids.squares(4, 2).wall(3, 4, true), false);
     }
 
     private static void promise7Pairs() {
-        GridShapes g = squares(3, 2);
+        GridShapes g = Grids.squares(3, 2);
         checks.due("7: squares", g.pairs(false), 7);
-        checks.due("7: hexes", hexes(3, 3).pairs(false), 16);
-        checks.due("7: triangles", triangles(4, 2).pairs(false), 8);
-        checks.due("7: rings", rings(4, 2).pairs(false), 12);
-        checks.due("7: rings of two", rings(2, 2).pairs(false), 4);
-        checks.due("7: rings of one", rings(1, 3).pairs(false), 2);
-        checks.due("7: graph", graph(4, 0, 1, 0, 2, 3, 0).pairs(false), 3);
-        checks.due("7: alone", squares(1, 1).pairs(false), 0);
+        checks.due("7: hexes", Grids.hexes(3, 3).pairs(false), 16);
+        checks.due("7: triangles", Grids.triangles(4, 2).pairs(false), 8);
+        checks.due("7: rings", Grids.rings(4, 2).pairs(false), 12);
+        checks.due("7: rings of two", Grids.rings(2, 2).pairs(false), 4);
+        checks.due("7: rings of one", Grids.rings(1, 3).pairs(false), 2);
+        checks.due("7: graph", Grids.graph(4, 0, 1, 0, 2, 3, 0).pairs(false), 3);
+        checks.due("7: alone", Grids.squares(1, 1).pairs(false), 0);
         g.wall(0, 1, true);
         g.wall(5, 4, true);
         checks.due("7: walled", g.pairs(true), 2);
@@ -238,16 +184,16 @@ public final class PromisesTest {
     }
 
     private static void promise8Pair() {
-        GridShapes g = squares(3, 2);
+        GridShapes g = Grids.squares(3, 2);
         checks.due("8: squares", Tell.pairs(g), "0-1 0-3 1-2 1-4 2-5 3-4 4-5");
-        checks.due("8: hexes", Tell.pairs(hexes(3, 2)), "0-1 0-3 1-2 1-3 1-4 2-4 2-5 3-4 4-5");
-        checks.due("8: triangles", Tell.pairs(triangles(4, 2)),
+        checks.due("8: hexes", Tell.pairs(Grids.hexes(3, 2)), "0-1 0-3 1-2 1-3 1-4 2-4 2-5 3-4 4-5");
+        checks.due("8: triangles", Tell.pairs(Grids.triangles(4, 2)),
                 "0-1 0-4 1-2 2-3 2-6 4-5 5-6 6-7");
-        checks.due("8: rings", Tell.pairs(rings(4, 2)),
+        checks.due("8: rings", Tell.pairs(Grids.rings(4, 2)),
                 "0-1 0-3 0-4 1-2 1-5 2-3 2-6 3-7 4-5 4-7 5-6 6-7");
-        checks.due("8: rings of two", Tell.pairs(rings(2, 2)), "0-1 0-2 1-3 2-3");
-        checks.due("8: graph", Tell.pairs(graph(5, 4, 2, 3, 0, 2, 0)), "0-2 0-3 2-4");
-        checks.due("8: no pair", Tell.pairs(hexes(1, 1)), "");
+        checks.due("8: rings of two", Tell.pairs(Grids.rings(2, 2)), "0-1 0-2 1-3 2-3");
+        checks.due("8: graph", Tell.pairs(Grids.graph(5, 4, 2, 3, 0, 2, 0)), "0-2 0-3 2-4");
+        checks.due("8: no pair", Tell.pairs(Grids.hexes(1, 1)), "");
         g.wall(0, 1, true);
         checks.due("8: walls change nothing", Tell.pairs(g), "0-1 0-3 1-2 1-4 2-5 3-4 4-5");
         checks.due("8: k -1", g.pair(-1, false), -1);
@@ -257,13 +203,13 @@ public final class PromisesTest {
     }
 
     private static void promise9Seen() {
-        GridShapes s = squares(3, 3);
+        GridShapes s = Grids.squares(3, 3);
         checks.due("9: above", Tell.seen(s, 7, 0), "4 1");
         checks.due("9: right", Tell.seen(s, 3, 1), "4 5");
         checks.due("9: below", Tell.seen(s, 1, 2), "4 7");
         checks.due("9: left", Tell.seen(s, 5, 3), "4 3");
         checks.due("9: squares have no direction 4", s.seen(4, 4, 0), -1);
-        GridShapes h = hexes(3, 4);
+        GridShapes h = Grids.hexes(3, 4);
         checks.due("9: up right", Tell.seen(h, 9, 0), "7 4 2");
         checks.due("9: hex right", Tell.seen(h, 3, 1), "4 5");
         checks.due("9: down right", Tell.seen(h, 0, 2), "3 7 10");
@@ -271,18 +217,18 @@ public final class PromisesTest {
         checks.due("9: hex left", Tell.seen(h, 5, 4), "4 3");
         checks.due("9: up left", Tell.seen(h, 10, 5), "7 3 0");
         checks.due("9: hexes have no direction 6", h.seen(4, 6, 0), -1);
-        GridShapes t = triangles(4, 2);
+        GridShapes t = Grids.triangles(4, 2);
         checks.due("9: triangles left", Tell.seen(t, 3, 0), "2 1 0");
         checks.due("9: triangles right", Tell.seen(t, 5, 1), "6 7");
         checks.due("9: triangles have no direction 2", t.seen(0, 2, 0), -1);
-        GridShapes r = rings(4, 3);
+        GridShapes r = Grids.rings(4, 3);
         checks.due("9: inward", Tell.seen(r, 9, 0), "5 1");
         checks.due("9: onward", Tell.seen(r, 6, 1), "7 4 5");
         checks.due("9: outward", Tell.seen(r, 2, 2), "6 10");
         checks.due("9: backward", Tell.seen(r, 5, 3), "4 7 6");
         checks.due("9: rings have no direction 4", r.seen(0, 4, 0), -1);
-        checks.due("9: ring of one", Tell.seen(rings(1, 2), 0, 1), "");
-        GridShapes g = graph(3, 0, 1, 1, 2);
+        checks.due("9: ring of one", Tell.seen(Grids.rings(1, 2), 0, 1), "");
+        GridShapes g = Grids.graph(3, 0, 1, 1, 2);
         for (int direction = -1; direction < 4; direction++) {
             checks.due("9: graphs have no direction", g.seen(0, direction, 0), -1);
         }
@@ -298,27 +244,27 @@ public final class PromisesTest {
     }
 
     private static void promise9SeenWithWalls() {
-        GridShapes s = squares(5, 1);
+        GridShapes s = Grids.squares(5, 1);
         s.wall(2, 3, true);
         checks.due("9: up to a wall", Tell.seen(s, 0, 1), "1 2");
         checks.due("9: at a wall", Tell.seen(s, 3, 3), "");
         checks.due("9: behind a wall", Tell.seen(s, 3, 1), "4");
         s.wall(3, 2, false);
         checks.due("9: wall taken", Tell.seen(s, 0, 1), "1 2 3 4");
-        GridShapes r = rings(5, 1);
+        GridShapes r = Grids.rings(5, 1);
         r.wall(4, 0, true);
         checks.due("9: ring up to a wall", Tell.seen(r, 2, 1), "3 4");
         checks.due("9: ring backward up to a wall", Tell.seen(r, 2, 3), "1 0");
         r.wall(4, 0, false);
         r.wall(1, 2, true);
         checks.due("9: wall before the place itself", Tell.seen(r, 2, 1), "3 4 0 1");
-        GridShapes t = triangles(4, 2);
+        GridShapes t = Grids.triangles(4, 2);
         t.wall(0, 4, true);
         checks.due("9: a wall aside", Tell.seen(t, 0, 1), "1 2 3");
     }
 
     private static void promise10Far() {
-        GridShapes s = squares(4, 3);
+        GridShapes s = Grids.squares(4, 3);
         checks.due("10: itself", s.far(5, 5), 0);
         checks.due("10: squares", s.far(0, 11), 5);
         s.wall(0, 1, true);
@@ -327,19 +273,19 @@ public final class PromisesTest {
         checks.due("10: walled in", s.far(0, 1), -1);
         checks.due("10: walled in, from there", s.far(11, 0), -1);
         checks.due("10: itself, walled in", s.far(0, 0), 0);
-        checks.due("10: hexes", hexes(3, 3).far(0, 8), 3);
-        checks.due("10: triangles", triangles(5, 2).far(4, 5), 5);
-        checks.due("10: rings", rings(7, 2).far(0, 12), 3);
-        checks.due("10: graph", graph(5, 0, 1, 1, 2, 2, 3).far(3, 0), 3);
-        checks.due("10: graph without a way", graph(5, 0, 1, 1, 2, 2, 3).far(4, 0), -1);
-        checks.due("10: longest", squares(16, 16).far(0, 255), 30);
+        checks.due("10: hexes", Grids.hexes(3, 3).far(0, 8), 3);
+        checks.due("10: triangles", Grids.triangles(5, 2).far(4, 5), 5);
+        checks.due("10: rings", Grids.rings(7, 2).far(0, 12), 3);
+        checks.due("10: graph", Grids.graph(5, 0, 1, 1, 2, 2, 3).far(3, 0), 3);
+        checks.due("10: graph without a way", Grids.graph(5, 0, 1, 1, 2, 2, 3).far(4, 0), -1);
+        checks.due("10: longest", Grids.squares(16, 16).far(0, 255), 30);
         checks.noSuchPlace("10: far(0, 12)", () -> s.far(0, 12));
         checks.noSuchPlace("10: far(12, 0)", () -> s.far(12, 0));
         checks.noSuchPlace("10: far(-1, -1)", () -> s.far(-1, -1));
     }
 
     private static void promise11Parts() {
-        GridShapes s = squares(3, 3);
+        GridShapes s = Grids.squares(3, 3);
         checks.due("11: one", s.parts(-1), 1);
         checks.due("11: any below 0", s.parts(Integer.MIN_VALUE), 1);
         s.wall(0, 1, true);
@@ -360,29 +306,29 @@ public final class PromisesTest {
         checks.due("11: areas do not part all", s.parts(-1), 2);
         s.wall(4, 5, true);
         checks.due("11: a wall in an area", s.parts(2), 3);
-        GridShapes line = squares(3, 1);
+        GridShapes line = Grids.squares(3, 1);
         line.area(1, 1);
         checks.due("11: area 0 is an area", line.parts(0), 2);
         checks.due("11: all of the line", line.parts(-1), 1);
-        checks.due("11: graph", graph(6, 0, 1, 4, 2).parts(-1), 4);
-        checks.due("11: graph's area", graph(6, 0, 1, 4, 2).parts(0), 4);
-        checks.due("11: hexes", hexes(16, 16).parts(-1), 1);
-        checks.due("11: triangles", triangles(1, 4).parts(-1), 2);
-        checks.due("11: rings", rings(1, 4).parts(-1), 1);
+        checks.due("11: graph", Grids.graph(6, 0, 1, 4, 2).parts(-1), 4);
+        checks.due("11: graph's area", Grids.graph(6, 0, 1, 4, 2).parts(0), 4);
+        checks.due("11: hexes", Grids.hexes(16, 16).parts(-1), 1);
+        checks.due("11: triangles", Grids.triangles(1, 4).parts(-1), 2);
+        checks.due("11: rings", Grids.rings(1, 4).parts(-1), 1);
     }
 
     private static void promise12Without() {
-        GridShapes line = squares(5, 1);
+        GridShapes line = Grids.squares(5, 1);
         checks.due("12: in the middle", line.without(2), 2);
         checks.due("12: at the end", line.without(0), 1);
         line.wall(3, 4, true);
         checks.due("12: with a wall", line.without(2), 3);
         checks.due("12: alone behind a wall", line.without(4), 1);
-        checks.due("12: nothing is left", squares(1, 1).without(0), 0);
-        checks.due("12: star", graph(6, 2, 0, 2, 1, 2, 3, 2, 4).without(2), 5);
-        checks.due("12: hexes", hexes(3, 3).without(4), 1);
-        checks.due("12: triangles", triangles(4, 1).without(1), 2);
-        checks.due("12: rings", rings(6, 1).without(3), 1);
+        checks.due("12: nothing is left", Grids.squares(1, 1).without(0), 0);
+        checks.due("12: star", Grids.graph(6, 2, 0, 2, 1, 2, 3, 2, 4).without(2), 5);
+        checks.due("12: hexes", Grids.hexes(3, 3).without(4), 1);
+        checks.due("12: triangles", Grids.triangles(4, 1).without(1), 2);
+        checks.due("12: rings", Grids.rings(6, 1).without(3), 1);
         checks.due("12: nothing is gone", line.parts(-1), 2);
         line.area(0, 1);
         checks.due("12: areas do not part", line.without(4), 1);
@@ -391,7 +337,7 @@ public final class PromisesTest {
     }
 
     private static void promise13Area() {
-        GridShapes g = squares(3, 2);
+        GridShapes g = Grids.squares(3, 2);
         checks.due("13: area(4, 5)", g.area(4, 5), true);
         checks.due("13: is so", g.size(5), 1);
         checks.due("13: again", g.area(4, 5), true);
@@ -402,14 +348,14 @@ public final class PromisesTest {
         checks.due("13: nothing changed", g.size(5), 1);
         checks.due("13: area(4, 0)", g.area(4, 0), true);
         checks.due("13: back", g.size(0), 6);
-        checks.due("13: graph's last", graph(4).area(0, 3), true);
-        checks.due("13: graph's too great", graph(4).area(0, 4), false);
+        checks.due("13: graph's last", Grids.graph(4).area(0, 3), true);
+        checks.due("13: graph's too great", Grids.graph(4).area(0, 4), false);
         checks.noSuchPlace("13: area(6, 0)", () -> g.area(6, 0));
         checks.noSuchPlace("13: area(-1, 9)", () -> g.area(-1, 9));
     }
 
     private static void promise14Size() {
-        GridShapes g = hexes(4, 4);
+        GridShapes g = Grids.hexes(4, 4);
         checks.due("14: all", g.size(0), 16);
         g.area(3, 15);
         g.area(12, 15);
@@ -423,7 +369,7 @@ public final class PromisesTest {
     }
 
     private static void promise15Mark() {
-        GridShapes g = triangles(3, 1);
+        GridShapes g = Grids.triangles(3, 1);
         checks.due("15: mark(1, 99)", g.mark(1, 99), true);
         checks.due("15: is so", Tell.text(g), "a99a");
         checks.due("15: mark(1, 100)", g.mark(1, 100), false);
@@ -439,13 +385,13 @@ public final class PromisesTest {
     }
 
     private static void promise16Image() {
-        GridShapes g = squares(3, 2);
+        GridShapes g = Grids.squares(3, 2);
         checks.due("16: 0", Tell.images(g, 0), "0 1 2 3 4 5");
         checks.due("16: 1", Tell.images(g, 1), "2 1 0 5 4 3");
         checks.due("16: 2", Tell.images(g, 2), "3 4 5 0 1 2");
         checks.due("16: 3", Tell.images(g, 3), "5 4 3 2 1 0");
         checks.due("16: no 4 when W is not H", g.image(4, 0), -1);
-        GridShapes[] wideAsHigh = {squares(3, 3), hexes(3, 3), triangles(3, 3)};
+        GridShapes[] wideAsHigh = {Grids.squares(3, 3), Grids.hexes(3, 3), Grids.triangles(3, 3)};
         for (GridShapes q : wideAsHigh) {
             checks.due("16: q 1", Tell.images(q, 1), "2 1 0 5 4 3 8 7 6");
             checks.due("16: q 4", Tell.images(q, 4), "0 3 6 1 4 7 2 5 8");
@@ -454,7 +400,7 @@ public final class PromisesTest {
             checks.due("16: q 7", Tell.images(q, 7), "8 5 2 7 4 1 6 3 0");
             checks.due("16: q 8", q.image(8, 0), -1);
         }
-        GridShapes r = rings(3, 2);
+        GridShapes r = Grids.rings(3, 2);
         checks.due("16: rings 0", Tell.images(r, 0), "0 1 2 3 4 5");
         checks.due("16: rings 1", Tell.images(r, 1), "0 2 1 3 5 4");
         checks.due("16: rings 2", Tell.images(r, 2), "1 2 0 4 5 3");
@@ -462,13 +408,13 @@ public final class PromisesTest {
         checks.due("16: rings 4", Tell.images(r, 4), "2 0 1 5 3 4");
         checks.due("16: rings 5", Tell.images(r, 5), "2 1 0 5 4 3");
         checks.due("16: rings 6", r.image(6, 0), -1);
-        checks.due("16: rings with W as H", rings(2, 2).image(4, 0), -1);
-        checks.due("16: rings of one", Tell.images(rings(1, 2), 1), "0 1");
-        checks.due("16: rings of one, 2", rings(1, 2).image(2, 0), -1);
-        GridShapes n = graph(3);
+        checks.due("16: rings with W as H", Grids.rings(2, 2).image(4, 0), -1);
+        checks.due("16: rings of one", Tell.images(Grids.rings(1, 2), 1), "0 1");
+        checks.due("16: rings of one, 2", Grids.rings(1, 2).image(2, 0), -1);
+        GridShapes n = Grids.graph(3);
         checks.due("16: graph 0", Tell.images(n, 0), "0 1 2");
         checks.due("16: graph 1", n.image(1, 0), -1);
-        checks.due("16: graph of one", graph(1).image(4, 0), -1);
+        checks.due("16: graph of one", Grids.graph(1).image(4, 0), -1);
         checks.due("16: turn -1", g.image(-1, 0), -1);
         checks.due("16: least", r.image(Integer.MIN_VALUE, 0), -1);
         checks.due("16: greatest", r.image(Integer.MAX_VALUE, 0), -1);
@@ -478,24 +424,24 @@ public final class PromisesTest {
     }
 
     private static void promise17Keeps() {
-        checks.due("17: squares", Tell.keeping(squares(3, 2)), "0 1 2 3");
-        checks.due("17: squares, W as H", Tell.keeping(squares(3, 3)), "0 1 2 3 4 5 6 7");
-        checks.due("17: hexes 3 x 3", Tell.keeping(hexes(3, 3)), "0 2");
-        checks.due("17: hexes 3 x 2", Tell.keeping(hexes(3, 2)), "0 3");
-        checks.due("17: hexes of one row", Tell.keeping(hexes(3, 1)), "0 1 2 3");
-        checks.due("17: hexes of one", Tell.keeping(hexes(1, 1)), "0 1 2 3 4 5 6 7");
-        checks.due("17: triangles 5 x 2", Tell.keeping(triangles(5, 2)), "0 1 2 3");
-        checks.due("17: triangles 4 x 2", Tell.keeping(triangles(4, 2)), "0 2");
-        checks.due("17: triangles 4 x 3", Tell.keeping(triangles(4, 3)), "0 3");
-        checks.due("17: rings", Tell.keeping(rings(4, 2)), "0 1 2 3 4 5 6 7");
-        checks.due("17: rings of one", Tell.keeping(rings(1, 2)), "0 1");
-        checks.due("17: graph", Tell.keeping(graph(3, 0, 1, 1, 2)), "0");
-        checks.due("17: greatest", squares(3, 3).keeps(Integer.MAX_VALUE), false);
-        checks.due("17: least", squares(3, 3).keeps(Integer.MIN_VALUE), false);
+        checks.due("17: squares", Tell.keeping(Grids.squares(3, 2)), "0 1 2 3");
+        checks.due("17: squares, W as H", Tell.keeping(Grids.squares(3, 3)), "0 1 2 3 4 5 6 7");
+        checks.due("17: hexes 3 x 3", Tell.keeping(Grids.hexes(3, 3)), "0 2");
+        checks.due("17: hexes 3 x 2", Tell.keeping(Grids.hexes(3, 2)), "0 3");
+        checks.due("17: hexes of one row", Tell.keeping(Grids.hexes(3, 1)), "0 1 2 3");
+        checks.due("17: hexes of one", Tell.keeping(Grids.hexes(1, 1)), "0 1 2 3 4 5 6 7");
+        checks.due("17: triangles 5 x 2", Tell.keeping(Grids.triangles(5, 2)), "0 1 2 3");
+        checks.due("17: triangles 4 x 2", Tell.keeping(Grids.triangles(4, 2)), "0 2");
+        checks.due("17: triangles 4 x 3", Tell.keeping(Grids.triangles(4, 3)), "0 3");
+        checks.due("17: rings", Tell.keeping(Grids.rings(4, 2)), "0 1 2 3 4 5 6 7");
+        checks.due("17: rings of one", Tell.keeping(Grids.rings(1, 2)), "0 1");
+        checks.due("17: graph", Tell.keeping(Grids.graph(3, 0, 1, 1, 2)), "0");
+        checks.due("17: greatest", Grids.squares(3, 3).keeps(Integer.MAX_VALUE), false);
+        checks.due("17: least", Grids.squares(3, 3).keeps(Integer.MIN_VALUE), false);
     }
 
     private static void promise17KeepsWallsAndMarks() {
-        GridShapes w = squares(3, 3);
+        GridShapes w = Grids.squares(3, 3);
         w.wall(0, 1, true);
         checks.due("17: wall", Tell.keeping(w), "0");
         w.wall(2, 1, true);
@@ -503,41 +449,41 @@ public final class PromisesTest {
         w.wall(6, 7, true);
         w.wall(7, 8, true);
         checks.due("17: four walls", Tell.keeping(w), "0 1 2 3");
-        GridShapes m = squares(3, 3);
+        GridShapes m = Grids.squares(3, 3);
         m.mark(0, 7);
         checks.due("17: mark", Tell.keeping(m), "0 4");
         m.mark(8, 7);
         checks.due("17: two marks", Tell.keeping(m), "0 3 4 7");
         m.mark(8, 8);
         checks.due("17: other marks", Tell.keeping(m), "0 4");
-        GridShapes r = rings(4, 1);
+        GridShapes r = Grids.rings(4, 1);
         r.mark(1, 3);
         checks.due("17: ring's mark", Tell.keeping(r), "0 5");
         r.mark(3, 3);
         checks.due("17: ring's marks", Tell.keeping(r), "0 1 4 5");
         r.wall(0, 1, true);
         checks.due("17: ring's wall", Tell.keeping(r), "0");
-        GridShapes a = squares(3, 3);
+        GridShapes a = Grids.squares(3, 3);
         a.area(0, 5);
         checks.due("17: areas do not count", Tell.keeping(a), "0 1 2 3 4 5 6 7");
     }
 
     private static void promise18Keeping() {
-        GridShapes g = squares(4, 4);
+        GridShapes g = Grids.squares(4, 4);
         checks.due("18: squares", g.keeping(), 8);
         g.mark(0, 1);
         checks.due("18: squares with a mark", g.keeping(), 2);
-        checks.due("18: squares 4 x 2", squares(4, 2).keeping(), 4);
-        checks.due("18: hexes", hexes(3, 3).keeping(), 2);
-        checks.due("18: triangles", triangles(4, 3).keeping(), 2);
-        checks.due("18: rings", rings(16, 16).keeping(), 32);
-        checks.due("18: rings of one", rings(1, 3).keeping(), 2);
-        checks.due("18: rings of two", rings(2, 2).keeping(), 4);
-        checks.due("18: graph", graph(4, 0, 1).keeping(), 1);
+        checks.due("18: squares 4 x 2", Grids.squares(4, 2).keeping(), 4);
+        checks.due("18: hexes", Grids.hexes(3, 3).keeping(), 2);
+        checks.due("18: triangles", Grids.triangles(4, 3).keeping(), 2);
+        checks.due("18: rings", Grids.rings(16, 16).keeping(), 32);
+        checks.due("18: rings of one", Grids.rings(1, 3).keeping(), 2);
+        checks.due("18: rings of two", Grids.rings(2, 2).keeping(), 4);
+        checks.due("18: graph", Grids.graph(4, 0, 1).keeping(), 1);
     }
 
     private static void promise19Text() {
-        GridShapes g = squares(16, 4);
+        GridShapes g = Grids.squares(16, 4);
         checks.due("19: 64 places", Tell.text(g), "zzl");
         g.mark(52, 5);
         checks.due("19: 52 places and 11", Tell.text(g), "zz5k");
@@ -555,7 +501,7 @@ public final class PromisesTest {
         checks.due("19: least", g.text(Integer.MIN_VALUE), -1);
         checks.due("19: behind", g.text(9), -1);
         checks.due("19: greatest", g.text(Integer.MAX_VALUE), -1);
-        GridShapes all = rings(16, 16);
+        GridShapes all = Grids.rings(16, 16);
         for (int place = 0; place < 256; place++) {
             all.mark(place, 42);
         }
@@ -563,11 +509,11 @@ public final class PromisesTest {
         checks.due("19: a blank of the longest", all.text(764), ' ');
         checks.due("19: last of the longest", all.text(766), '2');
         checks.due("19: behind the longest", all.text(767), -1);
-        checks.due("19: one place", Tell.text(graph(1)), "a");
+        checks.due("19: one place", Tell.text(Grids.graph(1)), "a");
     }
 
     private static void promise20Unit() {
-        GridShapes g = graph(3);
+        GridShapes g = Grids.graph(3);
         checks.due("20: 0", g.unit(0), true);
         checks.due("20: it came", g.read(), -1);
         checks.due("20: 255", g.unit(255), true);
@@ -579,18 +525,10 @@ public final class PromisesTest {
         g.unit('c');
         g.unit(353);
         checks.due("20: refused ones do not stand behind", g.read(), 3);
-        // Only a run beyond the 512 calls gets there, yet the promise names the bound.
-        for (int i = 0; i < 1200; i++) {
-            checks.due("20: unit " + i, g.unit('a'), true);
-        }
-        checks.due("20: unit 1200", g.unit('a'), false);
-        checks.due("20: too many places", g.read(), -4);
-        checks.due("20: room again", g.unit('c'), true);
-        checks.due("20: read again", g.read(), 3);
     }
 
     private static void promise21Read() {
-        GridShapes g = squares(4, 2);
+        GridShapes g = Grids.squares(4, 2);
         checks.due("21: numbers", Tell.read(g, "1 22 3 44 5 66 7 88"), 8);
         checks.due("21: are marks", Tell.text(g), "1 22 3 44 5 66 7 88");
         checks.due("21: letters", Tell.read(g, "h"), 8);
@@ -601,77 +539,12 @@ public final class PromisesTest {
         checks.due("21: and last", Tell.text(g), "10f90");
         checks.due("21: it is gone", g.read(), -1);
         checks.due("21: gone is gone", g.read(), -1);
-        GridShapes t = triangles(13, 4);
+        GridShapes t = Grids.triangles(13, 4);
         checks.due("21: z", Tell.read(t, "zz"), 52);
         checks.due("21: z between", Tell.read(t, "9z1x"), 52);
         checks.due("21: z and text", Tell.text(t), "9z1x");
-        checks.due("21: graph", Tell.read(graph(4), "5b5"), 4);
-        checks.due("21: rings", Tell.read(rings(1, 1), "7"), 1);
-        checks.due("21: hexes", Tell.read(hexes(2, 2), "10 20 30 40"), 4);
-    }
-
-    /** Each text is read on four places; the number is that of the byte that can't be there. */
-    private static void promise21ReadFaults() {
-        Object[][] faults = {
-            {"", 0}, {"c", 1}, {"1", 1}, {"12", 2}, {"1 2 3", 5}, {"aaa", 3}, {"b10", 3},
-            {"{", 0}, {"`", 0}, {"A", 0}, {"/", 0}, {":", 0}, {"b-", 1}, {"1!", 1}, {"\0", 0},
-            {"\u00ff", 0}, {"d\n", 1}, {"1\t2b", 1},
-            {" ", 0}, {" 1c", 0}, {"a 1", 1}, {"1 ", 1}, {"1 c", 1}, {"1  2b", 1}, {"12 ", 2},
-            {"1c ", 2}, {"c1 ", 2}, {"1 !", 1}, {"d ", 1},
-            {"123", 2}, {"1 100a", 4}, {"999999", 2},
-            {"0", 0}, {"a0", 1}, {"1 0", 2}, {"00", 0}, {"1 01", 2},
-            {"e", 0}, {"z", 0}, {"da", 1}, {"aaaaa", 4}, {"cb", 1}, {"d1", 1}, {"1 2 3 4 5", 8},
-            {"1 2 3 4a", 7}, {"1d", 1}, {"c10 1", 4}, {"c100", 3}, {"c1 0", 3}, {"d0", 1},
-        };
-        for (Object[] fault : faults) {
-            GridShapes g = squares(2, 2);
-            String text = (String) fault[0];
-            checks.due("21: reading '" + text + "'", Tell.read(g, text), -1 - (Integer) fault[1]);
-            checks.due("21: marks after '" + text + "'", Tell.text(g), "d");
-            checks.due("21: gone after '" + text + "'", Tell.read(g, "d"), 4);
-        }
-    }
-
-    private static void promise21ReadChangesNothingAtFaults() {
-        GridShapes g = rings(3, 2);
-        g.mark(2, 31);
-        g.mark(3, 4);
-        checks.due("21: fault at the end", Tell.read(g, "9 9 9 9"), -8);
-        checks.due("21: marks stay", Tell.text(g), "b31 4b");
-        checks.due("21: fault behind all places", Tell.read(g, "9 9 9 9 9 9a"), -12);
-        checks.due("21: marks stay again", Tell.text(g), "b31 4b");
-        g.area(1, 5);
-        g.wall(0, 1, true);
-        checks.due("21: then one that can be read", Tell.read(g, "9e"), 6);
-        checks.due("21: areas stay", g.size(5), 1);
-        checks.due("21: walls stay", g.pairs(true), 1);
-    }
-
-    private static void wrongPlacesInEveryKind() {
-        for (int kind = SQUARES; kind <= GRAPHS; kind++) {
-            GridShapes g = new GridShapes(kind, 3, 3);
-            wrongPlace(g, g.places());
-            for (int place : WRONG_PLACES) {
-                wrongPlace(g, place);
-            }
-            checks.due("nothing changed, kind " + kind, g.size(0), g.places());
-            checks.due("no mark, kind " + kind, g.text(1), -1);
-        }
-    }
-
-    private static void wrongPlace(GridShapes g, int p) {
-        checks.noSuchPlace("join a " + p, () -> g.join(p, 0));
-        checks.noSuchPlace("join b " + p, () -> g.join(0, p));
-        checks.noSuchPlace("degree " + p, () -> g.degree(p, false));
-        checks.noSuchPlace("neighbour " + p, () -> g.neighbour(p, 0));
-        checks.noSuchPlace("wall a " + p, () -> g.wall(p, 0, true));
-        checks.noSuchPlace("wall b " + p, () -> g.wall(0, p, true));
-        checks.noSuchPlace("seen " + p, () -> g.seen(p, 0, 0));
-        checks.noSuchPlace("far a " + p, () -> g.far(p, 0));
-        checks.noSuchPlace("far b " + p, () -> g.far(0, p));
-        checks.noSuchPlace("without " + p, () -> g.without(p));
-        checks.noSuchPlace("area " + p, () -> g.area(p, 0));
-        checks.noSuchPlace("mark " + p, () -> g.mark(p, 1));
-        checks.noSuchPlace("image " + p, () -> g.image(0, p));
+        checks.due("21: graph", Tell.read(Grids.graph(4), "5b5"), 4);
+        checks.due("21: rings", Tell.read(Grids.rings(1, 1), "7"), 1);
+        checks.due("21: hexes", Tell.read(Grids.hexes(2, 2), "10 20 30 40"), 4);
     }
 }

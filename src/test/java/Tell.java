@@ -75,6 +75,19 @@ final class Tell {
         return g.read();
     }
 
+    /** All that can be asked of a small grid, so that a change of any of it shows. */
+    static String all(GridShapes g) {
+        StringBuilder s = new StringBuilder();
+        for (int place = 0; place < g.places(); place++) {
+            s.append(neighbours(g, place)).append('/').append(g.degree(place, true)).append(", ");
+        }
+        s.append(g.pairs(true)).append(" walls, ").append(g.parts(-1)).append(" parts, areas ");
+        for (int area = 0; area < g.places(); area++) {
+            s.append(g.size(area)).append('/').append(g.parts(area)).append(' ');
+        }
+        return s.append(text(g)).toString();
+    }
+
     private static void add(StringBuilder s, String what) {
         if (s.length() > 0) {
             s.append(' ');
