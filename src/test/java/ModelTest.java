@@ -4,6 +4,8 @@ import java.util.Random;
 public final class ModelTest {
     private static final int RUNS = 1500;
     private static final int CALLS = 512;
+    // Eight calls each: one object answers for so many places before its 512 calls are used up.
+    private static final int PLACES_LOOKED_AT = 64;
     private static final int THROWN = Integer.MIN_VALUE + 77;
     private static final String BYTES = "0123456789 abcdez";
 
@@ -189,15 +191,21 @@ public final class ModelTest {
         GridModel m = new GridModel(kind, w, h);
         String of = "(" + kind + ", " + w + ", " + h + ") ";
         checks.due(of + "places", g.places(), m.n);
-        for (int p = 0; p < m.n; p++) {
+        checks.due(of + "pairs", g.pairs(false), m.pairs(false));
+        checks.due(of + "keeping", g.keeping(), m.keeping());
+        checks.due(of + "parts", g.parts(-1), m.parts(-1));
+        checks.due(of + "text", Tell.text(g), m.wholeText());
+        for (int first = 0; first < m.n; first += PLACES_LOOKED_AT) {
+            lookBeside(of, new GridShapes(kind, w, h), m, first);
+        }
+    }
+
+    private static void lookBeside(String of, GridShapes g, GridModel m, int first) {
+        for (int p = first; p < m.n && p < first + PLACES_LOOKED_AT; p++) {
             checks.due(of + "degree of " + p, g.degree(p, true), m.degree(p, true));
             for (int k = 0; k < 7; k++) {
                 checks.due(of + "neighbour of " + p, g.neighbour(p, k), m.neighbour(p, k));
             }
         }
-        checks.due(of + "pairs", g.pairs(false), m.pairs(false));
-        checks.due(of + "keeping", g.keeping(), m.keeping());
-        checks.due(of + "parts", g.parts(-1), m.parts(-1));
-        checks.due(of + "text", Tell.text(g), m.wholeText());
     }
 }

@@ -33,6 +33,8 @@ public final class TextBoundariesTest {
         checks.sentence("20: A byte comes behind what is to be read: true",
                 TextBoundariesTest::bytesInOrder);
         checks.sentence("20: false when it is not 0 .. 255", TextBoundariesTest::noByte);
+        checks.sentence("20: true (as many bytes as 512 calls have room for)",
+                TextBoundariesTest::allBytesOfOneObject);
         checks.sentence("20: false when .. there are 1,200", TextBoundariesTest::fullOfBytes);
     }
 
@@ -211,7 +213,16 @@ public final class TextBoundariesTest {
         checks.due("but the two others", Tell.text(g), "1b");
     }
 
-    // Only a run beyond the 512 calls gets there, yet the promise names the bound.
+    private static void allBytesOfOneObject() {
+        GridShapes g = Grids.graph(3);
+        for (int i = 0; i < 511; i++) {
+            checks.due("byte " + i, g.unit(i < 3 ? 'a' : '!'), true);
+        }
+        checks.due("the 512th call", g.read(), -4);
+    }
+
+    // Only a run beyond the 512 calls gets there, where the document leaves all answers free; that
+    // the class keeps to the promise's number there too is its own choice.
     private static void fullOfBytes() {
         GridShapes g = Grids.graph(3);
         g.unit('1');
